@@ -1,0 +1,59 @@
+/** Counts the answers that are not the ones due, and ends the test with 1 if there was one. */
+final class Expect {
+    static final Class<IndexOutOfBoundsException> INDEX = IndexOutOfBoundsException.class;
+    static final Class<IllegalArgumentException> ARGUMENT = IllegalArgumentException.class;
+    static final Class<IllegalStateException> STATE = IllegalStateException.class;
+
+    interface Call {
+        void on(RollSync x);
+    }
+
+    interface Setup {
+        RollSync make();
+    }
+
+    private int wrong;
+
+    void due(String call, long got, long want) {
+        if (got != want) {
+            wrong++;
+            System.out.println(call + " answered " + got + ", due is " + want);
+        }
+    }
+
+    void due(String call, boolean got, boolean want) {
+        due(call, got ? 1 : 0, want ? 1 : 0);
+    }
+
+    void due(String call, String got, String want) {
+        if (!got.equals(want)) {
+            wrong++;
+            System.out.println(call + " answered\n  " + got + "\n, due is\n  " + want);
+        }
+    }
+
+    /** The very class is asked: a machine's exception is a subclass of the one due. */
+    void refused(String name, Class<?> want, RollSync x, Call call) {
+        String got = "nothing";
+        try {
+            call.on(x);
+        } catch (RuntimeException thrown) {
+            got = thrown.getClass().getName();
+        }
+        due(name + " throws", got, want.getName());
+    }
+
+    /** The call throws on a new object made by setup, which then is as one without that call. */
+    void refusedUnchanged(String name, Class<?> want, Setup setup, Call call) {
+        RollSync x = setup.make();
+        refused(name, want, x, call);
+        due("the state after " + name, State.of(x), State.of(setup.make()));
+    }
+
+    void end() {
+        System.out.println(wrong == 0 ? "all answers are as due" : wrong + " answers are not as due");
+        if (wrong != 0) {
+            System.exit(1);
+        }
+    }
+}

@@ -5,6 +5,7 @@ public final class DeltasTest {
     public static void main(String[] args) {
         copiesAndLiterals();
         whichOfSeveral();
+        whichOfSeveralInPlace();
         joining();
         lastBlock();
         alarms();
@@ -87,6 +88,15 @@ public final class DeltasTest {
                 "copy 0+4 copy 0+1 cost 6 alarms 0");
     }
 
+    /** What was copied for the delta that was in the place has no part in the next one. */
+    private static void whichOfSeveralInPlace() {
+        RollSync x = pair(bytes(1, 2, 3, 4, 1, 2), bytes(3, 4), 2, 4096);
+        x.compare(0, 1, 1);
+        fill(x, 1, 1, 2);
+        x.compare(0, 1, 1);
+        EXPECT.due("the lowest, after another delta in the place", told(x, 0), "copy 0+2 cost 3 alarms 0");
+    }
+
     private static void joining() {
         compares("a copy of the same block", bytes(1, 2, 3, 4), 2, 4096, bytes(1, 2, 1, 2), "copy 0+2 copy 0+2 cost 6 alarms 0");
         compares("a copy of the block ahead", bytes(1, 2, 3, 4), 2, 4096, bytes(3, 4, 1, 2), "copy 2+2 copy 0+2 cost 6 alarms 0");
@@ -112,6 +122,7 @@ public final class DeltasTest {
         compares("fewer left, and no block is short", bytes(1, 2, 3, 4), 2, 1, bytes(1), "literals 0+1 cost 2 alarms 0");
         compares("a full block is not asked for a short window", bytes(5, 5, 5), 2, 4096, bytes(5, 5, 5, 5, 5),
                 "copy 0+2 copy 0+3 cost 6 alarms 0");
+        compares("the short block's byte with two left", bytes(1, 2, 3, 4), 3, 4096, bytes(4, 9), "literals 0+2 cost 3 alarms 0");
         compares("only a short block, no full window asked", bytes(1, 2), 3, 1, bytes(9, 9, 9),
                 "literals 0+3 cost 4 alarms 1");
     }
@@ -229,6 +240,9 @@ public final class DeltasTest {
         x.remove(2, 3, 1);
         EXPECT.refused("apply to a basis one too short", Expect.STATE, x, y -> y.apply(3, 2, 0));
         EXPECT.due("the target after that", State.bytes(x, 0), "50 51 9 52 53");
+        fill(x, 1, 3, 4, 1, 2);
+        x.compare(0, 1, 1);
+        EXPECT.refused("apply with only the first copy beyond", Expect.STATE, x, y -> y.apply(0, 2, 0));
         fill(x, 0, 7, 7, 7);
         x.compare(0, 1, 0);
         EXPECT.due("apply of literals to an empty basis", x.apply(0, 1, 1), 3);

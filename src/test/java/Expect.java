@@ -32,15 +32,22 @@ final class Expect {
         }
     }
 
-    /** The very class is asked: a machine's exception is a subclass of the one due. */
     void refused(String name, Class<?> want, RollSync x, Call call) {
         String got = "nothing";
         try {
             call.on(x);
         } catch (RuntimeException thrown) {
-            got = thrown.getClass().getName();
+            got = told(thrown);
         }
         due(name + " throws", got, want.getName());
+    }
+
+    /** The name of an exception that the program itself threw; more if the machine or the library did. */
+    static String told(Throwable thrown) {
+        StackTraceElement[] frames = thrown.getStackTrace();
+        String from = frames.length == 0 ? "nowhere" : frames[0].getClassName();
+        String name = thrown.getClass().getName();
+        return from.equals("RollSync") || from.equals("Model") ? name : name + " from " + from;
     }
 
     /** The call throws on a new object made by setup, which then is as one without that call. */

@@ -202,6 +202,10 @@ public final class FilesTest {
         EXPECT.due("same of a beginning", x.same(1, 0), false);
         x.insert(1, 4, 6);
         EXPECT.due("same with an unlike end", x.same(0, 1), false);
+        x.copy(0, 1);
+        x.remove(1, 0, 1);
+        x.insert(1, 0, 0);
+        EXPECT.due("same with an unlike beginning", x.same(0, 1), false);
         x.remove(0, 0, 5);
         x.remove(1, 0, 5);
         EXPECT.due("same of empty files", x.same(0, 1), true);

@@ -13,7 +13,7 @@ public final class RandomRunsTest {
     private static final int CALLS = 512;
     private static final int[] WILD = {-1, 0, 1, 2, 6, 7, 8, 12, 20, 120, 121, 255, 256, 4096, 4097, -2,
         Integer.MAX_VALUE, Integer.MIN_VALUE};
-    // Calls that change much come up more often; names twice in a row weigh double.
+    // A name that stands here twice comes up twice as often.
     private static final String[] CHANGES = {"file", "add", "add", "add", "insert", "insert", "insert", "remove",
         "remove", "copy", "copy", "sign", "sign", "compare", "compare", "compare", "apply", "apply", "keep",
         "keepDelta", "keepDelta", "keepDelta", "lose", "replace", "rebuild", "cuts", "store", "store", "store",
@@ -81,7 +81,7 @@ public final class RandomRunsTest {
         try {
             return String.valueOf(method.invoke(on, arguments));
         } catch (InvocationTargetException e) {
-            return "throws " + e.getCause().getClass().getName();
+            return "throws " + Expect.told(e.getCause());
         }
     }
 

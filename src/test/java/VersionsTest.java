@@ -14,6 +14,7 @@ public final class VersionsTest {
         rebuild();
         broken();
         beyondBeforeLost();
+        eachQuestionAlone();
         longChain();
         readingRefused();
         EXPECT.end();
@@ -263,6 +264,18 @@ public final class VersionsTest {
         broken(x, 4, 0, 1, RollSync.LOST);
         x.lose(2);
         broken(x, 2, 2, 0, RollSync.LOST);
+    }
+
+    private static void eachQuestionAlone() {
+        RollSync x = chainWithLoss();
+        EXPECT.due("brokenAfter(2)", x.brokenAfter(2), 1);
+        EXPECT.due("brokenAfter(0)", x.brokenAfter(0), RollSync.NONE);
+        EXPECT.due("brokenAfter(1)", x.brokenAfter(1), 0);
+        EXPECT.due("reason(0)", x.reason(0), RollSync.NONE);
+        EXPECT.due("reason(2)", x.reason(2), RollSync.LOST);
+        EXPECT.due("reason(3)", x.reason(3), RollSync.NONE);
+        EXPECT.due("brokenAt(2)", x.brokenAt(2), 1);
+        EXPECT.due("brokenAt(0)", x.brokenAt(0), RollSync.NONE);
     }
 
     private static void longChain() {

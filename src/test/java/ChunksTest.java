@@ -48,22 +48,6 @@ public final class ChunksTest {
         EXPECT.refusedUnchanged(name, want, ChunksTest::stored, call);
     }
 
-    private static String lengths(RollSync x, int paper) {
-        StringBuilder text = new StringBuilder();
-        for (int part = 0; part < x.parts(paper); part++) {
-            text.append(part == 0 ? "" : " ").append(x.partLength(paper, part));
-        }
-        return text.toString();
-    }
-
-    private static String counts(RollSync x, int paper) {
-        StringBuilder text = new StringBuilder();
-        for (int part = 0; part < x.parts(paper); part++) {
-            text.append(part == 0 ? "" : " ").append(x.shared(paper, part));
-        }
-        return text.toString();
-    }
-
     private static void held(String when, RollSync x, int papers, int chunks, int bytes) {
         EXPECT.due("papers() " + when, x.papers(), papers);
         EXPECT.due("chunks() " + when, x.chunks(), chunks);
@@ -74,24 +58,24 @@ public final class ChunksTest {
         RollSync x = with();
         x.add(0, 0, 0, 40);
         x.store(0);
-        EXPECT.due("the greatest length at first", lengths(x, 0), "16 16 8");
+        EXPECT.due("the greatest length at first", State.lengths(x, 0), "16 16 8");
         // Behind seven bytes 0 each hash is 7, which is 7 modulo 8.
         RollSync y = with(7, 0, 0, 0, 0, 0, 0, 7, 0, 0, 0);
         y.store(0);
-        EXPECT.due("the least length and divisor at first", lengths(y, 0), "8 3");
+        EXPECT.due("the least length and divisor at first", State.lengths(y, 0), "8 3");
         RollSync z = with(0, 0, 0, 7, 0, 0, 0, 0);
         z.store(0);
-        EXPECT.due("the least length at first", lengths(z, 0), "4 4");
+        EXPECT.due("the least length at first", State.lengths(z, 0), "4 4");
         RollSync w = with(0, 0, 7, 0, 0, 0, 0, 0);
         w.store(0);
-        EXPECT.due("no cut ahead of the least length", lengths(w, 0), "8");
+        EXPECT.due("no cut ahead of the least length", State.lengths(w, 0), "8");
     }
 
     private static void hash() {
         RollSync x = with(1, 10, 0, 0, 0, 0, 0, 0);
         x.cuts(1, 40, 64);
         x.store(0);
-        EXPECT.due("no hash is 63", lengths(x, 0), "8");
+        EXPECT.due("no hash is 63", State.lengths(x, 0), "8");
         // Hashes: 5, 10, 15, 20, 0, ..
         hashCuts(new int[] {5, 0, 0, 0, 0, 0}, 6, "1 5");
         hashCuts(new int[] {5, 0, 0, 0, 0, 0}, 11, "2 4");
@@ -112,7 +96,7 @@ public final class ChunksTest {
         RollSync x = with(bytes);
         x.cuts(1, 40, divisor);
         x.store(0);
-        EXPECT.due("cuts of " + State.bytes(x, 0) + " by " + divisor, lengths(x, 0), want);
+        EXPECT.due("cuts of " + State.bytes(x, 0) + " by " + divisor, State.lengths(x, 0), want);
     }
 
     private static void lengths() {
@@ -120,19 +104,19 @@ public final class ChunksTest {
         x.add(0, 0, 0, 45);
         x.cuts(1, 40, 64);
         x.store(0);
-        EXPECT.due("the greatest length 40", lengths(x, 0), "40 5");
+        EXPECT.due("the greatest length 40", State.lengths(x, 0), "40 5");
         x.cuts(16, 40, 1);
         x.store(0);
-        EXPECT.due("the least length 16", lengths(x, 1), "16 16 13");
+        EXPECT.due("the least length 16", State.lengths(x, 1), "16 16 13");
         x.cuts(16, 16, 64);
         x.store(0);
-        EXPECT.due("both lengths 16", lengths(x, 2), "16 16 13");
+        EXPECT.due("both lengths 16", State.lengths(x, 2), "16 16 13");
         x.cuts(5, 9, 64);
         x.store(0);
-        EXPECT.due("the greatest length at the end", lengths(x, 3), "9 9 9 9 9");
+        EXPECT.due("the greatest length at the end", State.lengths(x, 3), "9 9 9 9 9");
         x.cuts(5, 9, 1);
         x.store(0);
-        EXPECT.due("the divisor 1", lengths(x, 4), "5 5 5 5 5 5 5 5 5");
+        EXPECT.due("the divisor 1", State.lengths(x, 4), "5 5 5 5 5 5 5 5 5");
     }
 
     private static void cutsRanges() {
@@ -144,21 +128,21 @@ public final class ChunksTest {
             RollSync x = stored();
             EXPECT.refused(name, Expect.ARGUMENT, x, y -> y.cuts(w[0], w[1], w[2]));
             x.store(0);
-            EXPECT.due("cuts as before after " + name, lengths(x, 2), "2 2 2 1");
+            EXPECT.due("cuts as before after " + name, State.lengths(x, 2), "2 2 2 1");
         }
         RollSync x = with(1, 2, 3);
         x.cuts(1, 1, 64);
         x.store(0);
-        EXPECT.due("both lengths 1", lengths(x, 0), "1 1 1");
+        EXPECT.due("both lengths 1", State.lengths(x, 0), "1 1 1");
     }
 
     private static void cutsFromNowOn() {
         RollSync x = stored();
         x.cuts(3, 3, 1);
-        EXPECT.due("a paper after other cuts", lengths(x, 0), "2 2 2 1");
+        EXPECT.due("a paper after other cuts", State.lengths(x, 0), "2 2 2 1");
         EXPECT.due("store with other cuts", x.store(0), 2);
-        EXPECT.due("a paper by the other cuts", lengths(x, 2), "3 3 1");
-        EXPECT.due("counts of a chunk that both have", counts(x, 2), "1 1 3");
+        EXPECT.due("a paper by the other cuts", State.lengths(x, 2), "3 3 1");
+        EXPECT.due("counts of a chunk that both have", State.counts(x, 2), "1 1 3");
         held("with both cuts", x, 4, 6, 2 + 2 + 1 + 2 + 3 + 3);
         EXPECT.due("fetch of the one", x.fetch(1, 1), 7);
         EXPECT.due("same after that", x.same(0, 1), true);
@@ -205,8 +189,8 @@ public final class ChunksTest {
         x.store(0);
         held("of a paper that names one twice", x, 1, 3, 5);
         EXPECT.due("parts(0)", x.parts(0), 4);
-        EXPECT.due("lengths", lengths(x, 0), "2 2 2 1");
-        EXPECT.due("counts", counts(x, 0), "2 1 2 1");
+        EXPECT.due("lengths", State.lengths(x, 0), "2 2 2 1");
+        EXPECT.due("counts", State.counts(x, 0), "2 1 2 1");
         EXPECT.due("release(0)", x.release(0), 3);
         held("after release", x, 0, 0, 0);
     }
@@ -214,16 +198,16 @@ public final class ChunksTest {
     private static void acrossPapers() {
         RollSync x = stored();
         held("of three papers", x, 3, 4, 7);
-        EXPECT.due("counts(0)", counts(x, 0), "5 2 5 2");
-        EXPECT.due("counts(1)", counts(x, 1), "5 2 5 2");
-        EXPECT.due("counts(3)", counts(x, 3), "5 1");
+        EXPECT.due("counts(0)", State.counts(x, 0), "5 2 5 2");
+        EXPECT.due("counts(1)", State.counts(x, 1), "5 2 5 2");
+        EXPECT.due("counts(3)", State.counts(x, 3), "5 1");
         RollSync y = with(1, 1, 1, 2, 1, 1);
         y.cuts(3, 3, 1);
         y.store(0);
         y.cuts(2, 2, 1);
         y.store(0);
-        EXPECT.due("counts of chunks that begin alike", counts(y, 0), "1 1");
-        EXPECT.due("counts of the other ones", counts(y, 1), "2 1 2");
+        EXPECT.due("counts of chunks that begin alike", State.counts(y, 0), "1 1");
+        EXPECT.due("counts of the other ones", State.counts(y, 1), "2 1 2");
         held("of chunks that begin alike", y, 2, 4, 10);
     }
 
@@ -231,13 +215,13 @@ public final class ChunksTest {
         RollSync x = stored();
         EXPECT.due("release(0)", x.release(0), 0);
         held("after release(0)", x, 2, 4, 7);
-        EXPECT.due("counts(1) then", counts(x, 1), "3 1 3 1");
+        EXPECT.due("counts(1) then", State.counts(x, 1), "3 1 3 1");
         EXPECT.due("release(1)", x.release(1), 2);
         held("after release(1)", x, 1, 2, 4);
-        EXPECT.due("counts(3) then", counts(x, 3), "1 1");
+        EXPECT.due("counts(3) then", State.counts(x, 3), "1 1");
         EXPECT.refused("release(1) again", Expect.INDEX, x, y -> y.release(1));
         EXPECT.due("store after that", x.store(0), 0);
-        EXPECT.due("counts(0) then", counts(x, 0), "3 1 3 1");
+        EXPECT.due("counts(0) then", State.counts(x, 0), "3 1 3 1");
         EXPECT.due("fetch(3, 0)", x.fetch(3, 0), 4);
         EXPECT.due("the bytes", State.bytes(x, 0), "1 2 7 7");
         EXPECT.due("release(3)", x.release(3), 1);

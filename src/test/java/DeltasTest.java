@@ -43,21 +43,12 @@ public final class DeltasTest {
         return bytes;
     }
 
-    private static String told(RollSync x, int delta) {
-        StringBuilder text = new StringBuilder();
-        for (int i = 0; i < x.instructions(delta); i++) {
-            text.append(x.isCopy(delta, i) ? "copy " : "literals ");
-            text.append(x.startOf(delta, i)).append('+').append(x.bytesOf(delta, i)).append(' ');
-        }
-        return text.append("cost ").append(x.cost(delta)).append(" alarms ").append(x.alarms(delta)).toString();
-    }
-
     /** Compares, and applies the delta to its own basis too. */
     private static void compares(String name, int[] basis, int block, int modulus, int[] wanted, String want) {
         RollSync x = pair(basis, wanted, block, modulus);
         int count = x.compare(3, 1, 1);
         EXPECT.due("compare, " + name, count, x.instructions(3));
-        EXPECT.due("the delta, " + name, told(x, 3), want);
+        EXPECT.due("the delta, " + name, State.delta(x, 3), want);
         EXPECT.due("apply, " + name, x.apply(3, 0, 2), wanted.length);
         EXPECT.due("same after apply, " + name, x.same(1, 2), true);
     }
@@ -94,7 +85,7 @@ public final class DeltasTest {
         x.compare(0, 1, 1);
         fill(x, 1, 1, 2);
         x.compare(0, 1, 1);
-        EXPECT.due("the lowest, after another delta in the place", told(x, 0), "copy 0+2 cost 3 alarms 0");
+        EXPECT.due("the lowest, after another delta in the place", State.delta(x, 0), "copy 0+2 cost 3 alarms 0");
     }
 
     private static void joining() {
@@ -181,11 +172,11 @@ public final class DeltasTest {
         x.compare(0, 1, 0);
         x.sign(1, 2, 5, 5);
         x.remove(1, 0, 5);
-        EXPECT.due("a delta after all else was changed", told(x, 3), "copy 0+2 literals 2+1 copy 2+2 cost 8 alarms 0");
+        EXPECT.due("a delta after all else was changed", State.delta(x, 3), "copy 0+2 literals 2+1 copy 2+2 cost 8 alarms 0");
         x.apply(3, 0, 2);
         EXPECT.due("its bytes", State.bytes(x, 2), "1 2 9 3 4");
         EXPECT.due("compare in its place", x.compare(3, 1, 0), 1);
-        EXPECT.due("the new delta there", told(x, 3), "literals 0+4 cost 5 alarms 0");
+        EXPECT.due("the new delta there", State.delta(x, 3), "literals 0+4 cost 5 alarms 0");
         EXPECT.refused("an instruction of the old one", Expect.INDEX, x, y -> y.isCopy(3, 1));
     }
 

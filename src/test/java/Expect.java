@@ -8,6 +8,10 @@ final class Expect {
         void on(RollSync x);
     }
 
+    interface NumberedCall {
+        void on(RollSync x, int number);
+    }
+
     interface Setup {
         RollSync make();
     }
@@ -50,11 +54,24 @@ final class Expect {
         return from.equals("RollSync") || from.equals("Model") ? name : name + " from " + from;
     }
 
-    /** The call throws on a new object made by setup, which then is as one without that call. */
+    /**
+     * The call throws on new objects made by setup, which then are as one without that call, in
+     * what they tell and in what later calls make of them.
+     */
     void refusedUnchanged(String name, Class<?> want, Setup setup, Call call) {
         RollSync x = setup.make();
         refused(name, want, x, call);
         due("the state after " + name, State.of(x), State.of(setup.make()));
+        RollSync y = setup.make();
+        refused(name, want, y, call);
+        due("later calls after " + name, Probe.of(y), Probe.of(setup.make()));
+    }
+
+    /** As refusedUnchanged, for each of the numbers. */
+    void refusedForEach(int[] numbers, String name, Class<?> want, Setup setup, NumberedCall call) {
+        for (int number : numbers) {
+            refusedUnchanged(name + ", " + number, want, setup, x -> call.on(x, number));
+        }
     }
 
     void end() {

@@ -19,8 +19,39 @@ final class State {
 
     static String bytes(RollSync x, int file) {
         StringBuilder text = new StringBuilder();
-        for (int i = 0; i < x.length(file); i++) {
+        int length = x.length(file);
+        for (int i = 0; i < length; i++) {
             text.append(i == 0 ? "" : " ").append(x.byteAt(file, i));
+        }
+        return text.toString();
+    }
+
+    static String delta(RollSync x, int place) {
+        StringBuilder text = new StringBuilder();
+        int instructions = x.instructions(place);
+        for (int i = 0; i < instructions; i++) {
+            text.append(x.isCopy(place, i) ? "copy " : "literals ");
+            text.append(x.startOf(place, i)).append('+').append(x.bytesOf(place, i)).append(' ');
+        }
+        return text.append("cost ").append(x.cost(place)).append(" alarms ").append(x.alarms(place)).toString();
+    }
+
+    /** The lengths of the chunks of a paper. */
+    static String lengths(RollSync x, int paper) {
+        StringBuilder text = new StringBuilder();
+        int parts = x.parts(paper);
+        for (int part = 0; part < parts; part++) {
+            text.append(part == 0 ? "" : " ").append(x.partLength(paper, part));
+        }
+        return text.toString();
+    }
+
+    /** How often all papers name the chunks of a paper. */
+    static String counts(RollSync x, int paper) {
+        StringBuilder text = new StringBuilder();
+        int parts = x.parts(paper);
+        for (int part = 0; part < parts; part++) {
+            text.append(part == 0 ? "" : " ").append(x.shared(paper, part));
         }
         return text.toString();
     }
@@ -43,7 +74,8 @@ final class State {
     private void signatures() {
         for (int place = 0; place < 4; place++) {
             text.append("signature ").append(place).append(':');
-            for (int block = 0; block < x.blocks(place); block++) {
+            int blocks = x.blocks(place);
+            for (int block = 0; block < blocks; block++) {
                 text.append(' ').append(x.weak(place, block)).append('/').append(x.strong(place, block));
             }
             text.append("; ");
@@ -52,17 +84,13 @@ final class State {
 
     private void deltas() {
         for (int place = 0; place < 4; place++) {
-            text.append("delta ").append(place).append(':');
-            for (int i = 0; i < x.instructions(place); i++) {
-                text.append(x.isCopy(place, i) ? " copy " : " literals ");
-                text.append(x.startOf(place, i)).append('+').append(x.bytesOf(place, i));
-            }
-            text.append(" cost ").append(x.cost(place)).append(" alarms ").append(x.alarms(place)).append("; ");
+            text.append("delta ").append(place).append(": ").append(delta(x, place)).append("; ");
         }
     }
 
     private void versions() {
-        for (int version = 0; version < x.versions(); version++) {
+        int versions = x.versions();
+        for (int version = 0; version < versions; version++) {
             text.append("version ").append(version).append(": ").append(x.heldBy(version)).append(' ');
             text.append(x.brokenAt(version)).append(' ').append(x.brokenAfter(version)).append(' ');
             text.append(x.reason(version)).append("; ");
@@ -78,11 +106,8 @@ final class State {
 
     private void paper(int paper) {
         try {
-            int parts = x.parts(paper);
-            text.append("; paper ").append(paper).append(':');
-            for (int part = 0; part < parts; part++) {
-                text.append(' ').append(x.partLength(paper, part)).append('/').append(x.shared(paper, part));
-            }
+            String lengths = lengths(x, paper);
+            text.append("; paper ").append(paper).append(": ").append(lengths).append(" / ").append(counts(x, paper));
         } catch (IndexOutOfBoundsException e) {
             text.append("; no paper ").append(paper);
         }

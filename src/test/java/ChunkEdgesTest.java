@@ -249,7 +249,8 @@ public final class ChunkEdgesTest {
         EXPECT.refusedUnchanged("store of no file as the 13th", Expect.INDEX, full, y -> y.store(2));
         EXPECT.refusedUnchanged("store of the file -1 as the 13th", Expect.INDEX, full, y -> y.store(-1));
         EXPECT.refusedUnchanged("parts(12) of 12", Expect.INDEX, full, y -> y.parts(12));
-        refusedForEach(new int[] {-1, 2, 6, MOST, LEAST}, "store of the file", Expect.INDEX, (y, file) -> y.store(file));
+        refusedForEach(new int[] {-1, 2, 6, MOST, LEAST}, "store of the file", Expect.INDEX,
+                (y, file) -> y.store(file));
     }
 
     /** "a new one gets the lowest number that is free". */
@@ -372,8 +373,10 @@ public final class ChunkEdgesTest {
         EXPECT.due("store of a full file", x.store(0), 1);
         EXPECT.due("fetch of 120 bytes", x.fetch(1, 1), 120);
         EXPECT.due("same as the stored file", x.same(0, 1), true);
-        refusedForEach(new int[] {-1, 2, 6, MOST, LEAST}, "fetch onto the file", Expect.INDEX, (y, file) -> y.fetch(0, file));
-        refusedForEach(new int[] {-1, 2}, "fetch of no chunks onto the file", Expect.INDEX, (y, file) -> y.fetch(2, file));
+        refusedForEach(new int[] {-1, 2, 6, MOST, LEAST}, "fetch onto the file", Expect.INDEX,
+                (y, file) -> y.fetch(0, file));
+        refusedForEach(new int[] {-1, 2}, "fetch of no chunks onto the file", Expect.INDEX,
+                (y, file) -> y.fetch(2, file));
         refused("fetch of no paper onto no file", Expect.INDEX, y -> y.fetch(1, 2));
     }
 

@@ -6,6 +6,7 @@ public final class DeltaEdgesTest {
 
     public static void main(String[] args) {
         placesOfDeltas();
+        noSuchFile();
         compareOrderOfExceptions();
         compareWithAPlaceThatHoldsNothing();
         emptyFileCompared();
@@ -101,6 +102,13 @@ public final class DeltaEdgesTest {
         refusedForEach(wrong, "apply of the place", Expect.INDEX, (y, place) -> y.apply(place, 0, 1));
     }
 
+    private static void noSuchFile() {
+        int[] wrong = {-1, 3, 6, MOST, LEAST};
+        refusedForEach(wrong, "compare of the file", Expect.INDEX, (x, file) -> x.compare(0, 1, file));
+        refusedForEach(wrong, "apply to the file", Expect.INDEX, (x, file) -> x.apply(3, file, 1));
+        refusedForEach(wrong, "apply onto the file", Expect.INDEX, (x, file) -> x.apply(3, 0, file));
+    }
+
     private static void compareOrderOfExceptions() {
         refused("compare in no place, no signature", Expect.INDEX, x -> x.compare(4, 0, 0));
         refused("compare of no file, no signature", Expect.INDEX, x -> x.compare(0, 0, 3));
@@ -109,7 +117,8 @@ public final class DeltaEdgesTest {
 
     /** "Throws IllegalStateException if there is no signature in its place". */
     private static void compareWithAPlaceThatHoldsNothing() {
-        refusedForEach(new int[] {0, 2, 3}, "compare with the place", Expect.STATE, (x, place) -> x.compare(3, place, 1));
+        refusedForEach(new int[] {0, 2, 3}, "compare with the place", Expect.STATE,
+                (x, place) -> x.compare(3, place, 0));
         refused("compare of an empty file with no signature", Expect.STATE, x -> x.compare(1, 0, 2));
     }
 
@@ -142,7 +151,8 @@ public final class DeltaEdgesTest {
     /** "the window is the next L bytes, if r is at least L": also if r just is L. */
     private static void justAWindowLeft() {
         compares("r is L", bytes(1, 2, 3), 3, 4096, bytes(1, 2, 3), "copy 0+3 cost 3 alarms 0");
-        compares("r is L behind a literal", bytes(1, 2, 3), 3, 4096, bytes(9, 1, 2, 3), "literals 0+1 copy 0+3 cost 5 alarms 0");
+        compares("r is L behind a literal", bytes(1, 2, 3), 3, 4096, bytes(9, 1, 2, 3),
+                "literals 0+1 copy 0+3 cost 5 alarms 0");
         compares("r is L + 1", bytes(1, 2, 3), 3, 4096, bytes(1, 2, 3, 9), "copy 0+3 literals 3+1 cost 5 alarms 0");
         compares("r is L, the window alarms", bytes(1, 2, 3), 3, 1, bytes(7, 8, 9), "literals 0+3 cost 4 alarms 1");
     }
@@ -155,7 +165,8 @@ public final class DeltaEdgesTest {
         compares("the short block joined to a copy", five, 4, 4096, five, "copy 0+5 cost 3 alarms 0");
         int[] seven = bytes(1, 2, 3, 4, 5, 6, 7);
         compares("L - 1 left, the last block has L - 1", seven, 4, 4096, bytes(5, 6, 7), "copy 4+3 cost 3 alarms 0");
-        compares("L - 1 left behind literals", seven, 4, 4096, bytes(9, 5, 6, 7), "literals 0+1 copy 4+3 cost 5 alarms 0");
+        compares("L - 1 left behind literals", seven, 4, 4096, bytes(9, 5, 6, 7),
+                "literals 0+1 copy 4+3 cost 5 alarms 0");
         compares("the only block is short", bytes(8, 9), 7, 4096, bytes(8, 9), "copy 0+2 cost 3 alarms 0");
         compares("the only block is short, 7 ahead", bytes(8, 9), 7, 4096, bytes(8, 9, 8, 9, 8, 9, 8, 8, 9),
                 "literals 0+7 copy 0+2 cost 11 alarms 0");
@@ -169,13 +180,15 @@ public final class DeltaEdgesTest {
         compares("2 left of no match, then 1 left", six, 4, 1, bytes(5, 5), "literals 0+2 cost 3 alarms 1");
         compares("1 left, the last block is whole", bytes(1, 2), 2, 1, bytes(1), "literals 0+1 cost 2 alarms 0");
         compares("L - 1 left, the last block is whole", six, 3, 1, bytes(5, 6), "literals 0+2 cost 3 alarms 0");
-        compares("the short block's bytes within the file", six, 4, 4096, bytes(5, 6, 9), "literals 0+3 cost 4 alarms 0");
+        compares("the short block's bytes within the file", six, 4, 4096, bytes(5, 6, 9),
+                "literals 0+3 cost 4 alarms 0");
     }
 
     /** "the blocks asked are those with L bytes". */
     private static void shortBlockIsNotAskedForAWholeWindow() {
         compares("only a short block, modulus 1", bytes(1), 3, 1, bytes(9, 9, 9), "literals 0+3 cost 4 alarms 1");
-        compares("only a short block, none left for it", bytes(1, 2), 3, 1, bytes(9, 9, 9, 9), "literals 0+4 cost 5 alarms 1");
+        compares("only a short block, none left for it", bytes(1, 2), 3, 1, bytes(9, 9, 9, 9),
+                "literals 0+4 cost 5 alarms 1");
         // With 0 as its byte the short block's weak sum is that of the window 0 0.
         compares("a short block of a byte 0", bytes(5, 5, 0), 2, 4096, bytes(0, 0, 9), "literals 0+3 cost 4 alarms 0");
     }
@@ -184,7 +197,8 @@ public final class DeltaEdgesTest {
     private static void wholeBlocksAreNotAskedForAShortWindow() {
         // The whole block 0 0 has the weak sum of the window 0, the last block 7 has not.
         compares("a whole block of bytes 0", bytes(0, 0, 7), 2, 4096, bytes(0), "literals 0+1 cost 2 alarms 0");
-        compares("alike bytes, the short block at the end", bytes(5, 5, 5), 2, 4096, bytes(5), "copy 2+1 cost 3 alarms 0");
+        compares("alike bytes, the short block at the end", bytes(5, 5, 5), 2, 4096, bytes(5),
+                "copy 2+1 cost 3 alarms 0");
         compares("alike bytes, whole blocks ahead", bytes(5, 5, 5), 2, 4096, bytes(5, 5, 5, 5, 5),
                 "copy 0+2 copy 0+3 cost 6 alarms 0");
     }
@@ -192,14 +206,16 @@ public final class DeltaEdgesTest {
     /** "otherwise the one with the lowest number". */
     private static void lowestOfSeveral() {
         compares("the lowest of three", bytes(9, 5, 5, 5), 1, 4096, bytes(5), "copy 1+1 cost 3 alarms 0");
-        compares("the one behind does not match", bytes(1, 2, 1), 1, 4096, bytes(1, 1), "copy 0+1 copy 0+1 cost 6 alarms 0");
+        compares("the one behind does not match", bytes(1, 2, 1), 1, 4096, bytes(1, 1),
+                "copy 0+1 copy 0+1 cost 6 alarms 0");
         compares("the last of all is the one", bytes(1, 2, 3), 1, 4096, bytes(3), "copy 2+1 cost 3 alarms 0");
     }
 
     /** "of several it is the one behind the block that was copied by the latest instruction". */
     private static void oneBehindTheLatest() {
         compares("the one behind, not the lowest", bytes(1, 3, 2, 3), 1, 4096, bytes(2, 3), "copy 2+2 cost 3 alarms 0");
-        compares("the one behind a joined copy", bytes(5, 5, 5, 5), 1, 4096, bytes(5, 5, 5), "copy 0+3 cost 3 alarms 0");
+        compares("the one behind a joined copy", bytes(5, 5, 5, 5), 1, 4096, bytes(5, 5, 5),
+                "copy 0+3 cost 3 alarms 0");
         compares("the one behind is the short block", bytes(1, 2, 1, 2, 3), 2, 4096, bytes(1, 2, 1, 2, 3),
                 "copy 0+5 cost 3 alarms 0");
         compares("the one behind a copy that began anew", bytes(1, 2, 9, 1, 3, 2), 1, 4096, bytes(3, 2, 9, 1, 2),
@@ -209,15 +225,18 @@ public final class DeltaEdgesTest {
     /** Behind the last block there is none, and the lowest one is taken. */
     private static void nothingBehindTheLastBlock() {
         compares("behind the last block", bytes(4, 4), 1, 4096, bytes(4, 4, 4), "copy 0+2 copy 0+1 cost 6 alarms 0");
-        compares("around from the last to the first", bytes(1, 2), 1, 4096, bytes(2, 1), "copy 1+1 copy 0+1 cost 6 alarms 0");
+        compares("around from the last to the first", bytes(1, 2), 1, 4096, bytes(2, 1),
+                "copy 1+1 copy 0+1 cost 6 alarms 0");
         compares("a whole window where only the short block is behind", bytes(7, 7, 7), 2, 4096, bytes(7, 7, 7, 7),
                 "copy 0+2 copy 0+2 cost 6 alarms 0");
     }
 
     /** "if the latest instruction is a copy": not behind literals, nor at the beginning. */
     private static void noCopyJustAhead() {
-        compares("behind a literal", bytes(1, 3, 2, 3), 1, 4096, bytes(2, 9, 3), "copy 2+1 literals 1+1 copy 1+1 cost 8 alarms 0");
-        compares("the first block behind a literal", bytes(3, 3), 1, 4096, bytes(9, 3), "literals 0+1 copy 0+1 cost 5 alarms 0");
+        compares("behind a literal", bytes(1, 3, 2, 3), 1, 4096, bytes(2, 9, 3),
+                "copy 2+1 literals 1+1 copy 1+1 cost 8 alarms 0");
+        compares("the first block behind a literal", bytes(3, 3), 1, 4096, bytes(9, 3),
+                "literals 0+1 copy 0+1 cost 5 alarms 0");
         RollSync x = pair(bytes(1, 3, 2, 3), bytes(2), 1, 4096);
         x.compare(0, 1, 1);
         Make.fill(x, 1, 3);
@@ -240,7 +259,8 @@ public final class DeltaEdgesTest {
     /** "a literal is joined to the latest instruction if that consists of literals". */
     private static void literalsAreJoined() {
         compares("two literals", bytes(1), 1, 4096, bytes(8, 9), "literals 0+2 cost 3 alarms 0");
-        compares("a copy between literals", bytes(1), 1, 4096, bytes(8, 1, 9), "literals 0+1 copy 0+1 literals 2+1 cost 7 alarms 0");
+        compares("a copy between literals", bytes(1), 1, 4096, bytes(8, 1, 9),
+                "literals 0+1 copy 0+1 literals 2+1 cost 7 alarms 0");
         compares("a literal at the end", bytes(1), 1, 4096, bytes(1, 9), "copy 0+1 literals 1+1 cost 5 alarms 0");
     }
 
@@ -248,9 +268,12 @@ public final class DeltaEdgesTest {
     private static void alarmsOfEachWindow() {
         // 0 2 0 and 1 0 1 have the same weak sum, whatever the modulus is.
         compares("one block alike", bytes(0, 2, 0), 3, 4096, bytes(1, 0, 1), "literals 0+3 cost 4 alarms 1");
-        compares("three blocks alike", bytes(0, 2, 0, 0, 2, 0, 0, 2, 0), 3, 4096, bytes(1, 0, 1), "literals 0+3 cost 4 alarms 1");
-        compares("one alike, a later one matches", bytes(0, 2, 0, 1, 0, 1), 3, 4096, bytes(1, 0, 1), "copy 3+3 cost 3 alarms 0");
-        compares("one alike, an earlier one matches", bytes(1, 0, 1, 0, 2, 0), 3, 4096, bytes(1, 0, 1), "copy 0+3 cost 3 alarms 0");
+        compares("three blocks alike", bytes(0, 2, 0, 0, 2, 0, 0, 2, 0), 3, 4096, bytes(1, 0, 1),
+                "literals 0+3 cost 4 alarms 1");
+        compares("one alike, a later one matches", bytes(0, 2, 0, 1, 0, 1), 3, 4096, bytes(1, 0, 1),
+                "copy 3+3 cost 3 alarms 0");
+        compares("one alike, an earlier one matches", bytes(1, 0, 1, 0, 2, 0), 3, 4096, bytes(1, 0, 1),
+                "copy 0+3 cost 3 alarms 0");
         compares("none alike", bytes(0, 2, 0), 3, 4096, bytes(1, 0, 2), "literals 0+3 cost 4 alarms 0");
         compares("an alarm at each place", bytes(0, 0), 2, 1, bytes(1, 1, 1, 1), "literals 0+4 cost 5 alarms 3");
         compares("alarms, then a match", bytes(0, 0), 2, 1, bytes(1, 1, 0, 0), "literals 0+2 copy 0+2 cost 6 alarms 2");
@@ -303,7 +326,8 @@ public final class DeltaEdgesTest {
 
     /** "The place of its first byte in the signed file for a copy, in the compared file for literals". */
     private static void startsOfInstructions() {
-        compares("copies from behind, literals at both ends", bytes(1, 2, 3, 4, 5, 6, 7), 3, 4096, bytes(9, 4, 5, 6, 9, 9, 7),
+        compares("copies from behind, literals at both ends", bytes(1, 2, 3, 4, 5, 6, 7), 3, 4096,
+                bytes(9, 4, 5, 6, 9, 9, 7),
                 "literals 0+1 copy 3+3 literals 4+2 copy 6+1 cost 11 alarms 0");
     }
 
@@ -340,6 +364,13 @@ public final class DeltaEdgesTest {
         EXPECT.due("the delta there then", State.delta(x, 3), "cost 0 alarms 0");
         EXPECT.due("apply of it", x.apply(3, 0, 0), 0);
         EXPECT.due("the delta in place 2", State.delta(x, 2), "copy 0+5 cost 3 alarms 0");
+        Make.fill(x, 0, 9, 9);
+        x.sign(1, 0, 1, 1);
+        x.compare(2, 1, 1);
+        EXPECT.due("one with alarms in its place", State.delta(x, 2),
+                "literals 0+2 copy 0+1 literals 3+1 cost 8 alarms 3");
+        x.compare(2, 1, 0);
+        EXPECT.due("one without alarms in its place", State.delta(x, 2), "copy 0+2 cost 3 alarms 0");
     }
 
     /** "a delta holds all it needs": neither the compared file, nor the signature, nor the signed file. */
@@ -400,7 +431,8 @@ public final class DeltaEdgesTest {
     private static void applyGoesBeyondByOne() {
         Expect.Setup oneShort = DeltaEdgesTest::withABasisOneShort;
         EXPECT.refusedUnchanged("apply beyond by one byte", Expect.STATE, oneShort, x -> x.apply(3, 2, 0));
-        EXPECT.refusedUnchanged("apply beyond by one byte, onto the basis", Expect.STATE, oneShort, x -> x.apply(3, 2, 2));
+        EXPECT.refusedUnchanged("apply beyond by one byte, onto the basis", Expect.STATE, oneShort,
+                x -> x.apply(3, 2, 2));
         RollSync x = Make.files(bytes(), bytes(9));
         x.add(0, 0, 1, 120);
         x.sign(0, 0, 7, 4096);

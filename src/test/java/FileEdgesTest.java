@@ -8,6 +8,7 @@ public final class FileEdgesTest {
         sixFilesAndASeventh();
         filesStayThoughEmpty();
         noFileInANewObject();
+        noSuchFile();
         addUpTo120();
         addBeyond120();
         addWrapsAround();
@@ -107,6 +108,22 @@ public final class FileEdgesTest {
         EXPECT.refused("length(1) behind one file()", Expect.INDEX, x, y -> y.length(1));
     }
 
+    /** "if there is no such file": each file that a call names, just outside and far outside. */
+    private static void noSuchFile() {
+        int[] wrong = {-1, 3, 5, 6, MOST, LEAST};
+        refusedForEach(wrong, "add to the file", Expect.INDEX, (x, file) -> x.add(file, 0, 0, 1));
+        refusedForEach(wrong, "insert into the file", Expect.INDEX, (x, file) -> x.insert(file, 0, 0));
+        refusedForEach(wrong, "remove of the file", Expect.INDEX, (x, file) -> x.remove(file, 0, 0));
+        refusedForEach(wrong, "copy of the file", Expect.INDEX, (x, file) -> x.copy(file, 1));
+        refusedForEach(wrong, "copy onto the file", Expect.INDEX, (x, file) -> x.copy(1, file));
+        refusedForEach(wrong, "copy of and onto the file", Expect.INDEX, (x, file) -> x.copy(file, file));
+        refusedForEach(wrong, "length of the file", Expect.INDEX, (x, file) -> x.length(file));
+        refusedForEach(wrong, "byteAt of the file", Expect.INDEX, (x, file) -> x.byteAt(file, 0));
+        refusedForEach(wrong, "same of the file", Expect.INDEX, (x, file) -> x.same(file, 2));
+        refusedForEach(wrong, "same with the file", Expect.INDEX, (x, file) -> x.same(2, file));
+        refusedForEach(wrong, "same of the file with itself", Expect.INDEX, (x, file) -> x.same(file, file));
+    }
+
     /** "of at most 120 bytes each", "many: 1 to 120", "Returns the length then". */
     private static void addUpTo120() {
         RollSync x = three();
@@ -192,8 +209,10 @@ public final class FileEdgesTest {
 
     /** "Throws IndexOutOfBoundsException if .. place is out of its range". */
     private static void insertOutsideTheFile() {
-        refusedForEach(new int[] {-1, 4, 120, MOST, LEAST}, "insert at", Expect.INDEX, (x, place) -> x.insert(1, place, 0));
-        refusedForEach(new int[] {-1, 1}, "insert into an empty file at", Expect.INDEX, (x, place) -> x.insert(2, place, 0));
+        refusedForEach(new int[] {-1, 4, 120, MOST, LEAST}, "insert at", Expect.INDEX,
+                (x, place) -> x.insert(1, place, 0));
+        refusedForEach(new int[] {-1, 1}, "insert into an empty file at", Expect.INDEX,
+                (x, place) -> x.insert(2, place, 0));
     }
 
     /** "value: 0 to 255". */
@@ -202,7 +221,8 @@ public final class FileEdgesTest {
         x.insert(2, 0, 255);
         x.insert(2, 0, 0);
         bytes("of the least and the greatest", x, 2, "0 255");
-        refusedForEach(new int[] {-1, 256, MOST, LEAST}, "insert of", Expect.ARGUMENT, (y, value) -> y.insert(1, 3, value));
+        refusedForEach(new int[] {-1, 256, MOST, LEAST}, "insert of", Expect.ARGUMENT,
+                (y, value) -> y.insert(1, 3, value));
     }
 
     /** "Throws IllegalStateException if the file has 120 bytes". */
@@ -265,13 +285,16 @@ public final class FileEdgesTest {
                 (x, many) -> x.remove(1, 2, many));
         refusedForEach(new int[] {-1, 1, MOST, LEAST}, "remove from the end", Expect.ARGUMENT,
                 (x, many) -> x.remove(1, 3, many));
-        refusedForEach(new int[] {-1, 1}, "remove of an empty file", Expect.ARGUMENT, (x, many) -> x.remove(2, 0, many));
-        refusedForEach(new int[] {-1, 121}, "remove of a full file", Expect.ARGUMENT, (x, many) -> x.remove(0, 0, many));
+        refusedForEach(new int[] {-1, 1}, "remove of an empty file", Expect.ARGUMENT,
+                (x, many) -> x.remove(2, 0, many));
+        refusedForEach(new int[] {-1, 121}, "remove of a full file", Expect.ARGUMENT,
+                (x, many) -> x.remove(0, 0, many));
     }
 
     /** "Throws IndexOutOfBoundsException if .. place is below 0 or above its length". */
     private static void removeOutsideTheFile() {
-        refusedForEach(new int[] {-1, 4, MOST, LEAST}, "remove of none at", Expect.INDEX, (x, place) -> x.remove(1, place, 0));
+        refusedForEach(new int[] {-1, 4, MOST, LEAST}, "remove of none at", Expect.INDEX,
+                (x, place) -> x.remove(1, place, 0));
         refusedForEach(new int[] {-1, 1}, "remove of none of an empty file at", Expect.INDEX,
                 (x, place) -> x.remove(2, place, 0));
         refused("remove of none behind a full file", Expect.INDEX, x -> x.remove(0, 121, 0));
@@ -337,7 +360,8 @@ public final class FileEdgesTest {
 
     /** "Throws IndexOutOfBoundsException if there is no such file or byte". */
     private static void byteBehindTheLast() {
-        refusedForEach(new int[] {-1, 3, 119, 120, MOST, LEAST}, "byteAt of 3", Expect.INDEX, (x, place) -> x.byteAt(1, place));
+        refusedForEach(new int[] {-1, 3, 119, 120, MOST, LEAST}, "byteAt of 3", Expect.INDEX,
+                (x, place) -> x.byteAt(1, place));
         refusedForEach(new int[] {-1, 120}, "byteAt of 120", Expect.INDEX, (x, place) -> x.byteAt(0, place));
         refusedForEach(new int[] {-1, 0}, "byteAt of none", Expect.INDEX, (x, place) -> x.byteAt(2, place));
         RollSync x = three();

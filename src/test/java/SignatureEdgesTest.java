@@ -53,6 +53,8 @@ public final class SignatureEdgesTest {
         }
         int[] wrong = {-1, 4, MOST, LEAST};
         refusedForEach(wrong, "sign in the place", Expect.INDEX, (y, place) -> y.sign(place, 0, 1, 1));
+        refusedForEach(new int[] {-1, 3, 6, MOST, LEAST}, "sign of the file", Expect.INDEX,
+                (y, file) -> y.sign(0, file, 1, 1));
         refusedForEach(wrong, "blocks of the place", Expect.INDEX, (y, place) -> y.blocks(place));
         refusedForEach(wrong, "weak of the place", Expect.INDEX, (y, place) -> y.weak(place, 0));
         refusedForEach(wrong, "strong of the place", Expect.INDEX, (y, place) -> y.strong(place, 0));

@@ -39,6 +39,7 @@ public final class VersionEdgesTest {
         lostBelowOneBeyond();
         lostAboveOneBeyond();
         chainOfTwenty();
+        eachQuestionAlone();
         heldOfEachKind();
         noSuchVersion();
         EXPECT.end();
@@ -50,7 +51,8 @@ public final class VersionEdgesTest {
      * version 4 is file 2 as a delta on version 0, version 5 is 7 7 as a delta on version 0.
      */
     private static RollSync six() {
-        RollSync x = Make.files(Make.bytes(1, 2, 3, 4, 5, 6, 7, 8), Make.bytes(1, 2, 3, 4, 9, 5, 6, 7, 8), Make.bytes());
+        RollSync x = Make.files(Make.bytes(1, 2, 3, 4, 5, 6, 7, 8), Make.bytes(1, 2, 3, 4, 9, 5, 6, 7, 8),
+                Make.bytes());
         x.keep(0);
         x.keepDelta(1, 0, 2);
         x.keepDelta(0, 1, 2);
@@ -226,7 +228,8 @@ public final class VersionEdgesTest {
         EXPECT.refusedUnchanged("keepDelta on a lost one, block 0", Expect.ARGUMENT, lost, x -> x.keepDelta(0, 0, 0));
         EXPECT.refusedUnchanged("keepDelta on a broken one, block 8", Expect.ARGUMENT, lost, x -> x.keepDelta(0, 2, 8));
         Expect.Setup full = VersionEdgesTest::twentyWithOneLost;
-        EXPECT.refusedUnchanged("keepDelta on a broken one of 20, block 0", Expect.ARGUMENT, full, x -> x.keepDelta(0, 5, 0));
+        EXPECT.refusedUnchanged("keepDelta on a broken one of 20, block 0", Expect.ARGUMENT, full,
+                x -> x.keepDelta(0, 5, 0));
     }
 
     /** "Throws IllegalStateException if .. the base cannot be rebuilt". */
@@ -235,7 +238,8 @@ public final class VersionEdgesTest {
         EXPECT.refusedUnchanged("keepDelta on a lost one", Expect.STATE, lost, x -> x.keepDelta(0, 0, 1));
         EXPECT.refusedUnchanged("keepDelta on a delta on a lost one", Expect.STATE, lost, x -> x.keepDelta(0, 1, 1));
         EXPECT.refusedUnchanged("keepDelta two above a lost one", Expect.STATE, lost, x -> x.keepDelta(0, 2, 1));
-        EXPECT.refusedUnchanged("keepDelta of an empty file above a lost one", Expect.STATE, lost, x -> x.keepDelta(2, 4, 1));
+        EXPECT.refusedUnchanged("keepDelta of an empty file above a lost one", Expect.STATE, lost,
+                x -> x.keepDelta(2, 4, 1));
         Expect.Setup beyond = VersionEdgesTest::sixWithTheGroundOneShort;
         EXPECT.refusedUnchanged("keepDelta on one beyond", Expect.STATE, beyond, x -> x.keepDelta(0, 1, 1));
         EXPECT.refusedUnchanged("keepDelta on a delta on one beyond", Expect.STATE, beyond, x -> x.keepDelta(0, 2, 1));
@@ -344,7 +348,8 @@ public final class VersionEdgesTest {
         x.replace(3, 0);
         sound("an empty one, replaced", x, 3, "1 2 3 4 5 6 7 8");
         EXPECT.due("versions() then", x.versions(), 6);
-        refusedForEach(new int[] {-1, 6, 20, MOST, LEAST}, "replace of", Expect.INDEX, (y, version) -> y.replace(version, 0));
+        refusedForEach(new int[] {-1, 6, 20, MOST, LEAST}, "replace of", Expect.INDEX,
+                (y, version) -> y.replace(version, 0));
         refusedForEach(new int[] {-1, 3, 6, MOST, LEAST}, "replace by", Expect.INDEX, (y, file) -> y.replace(0, file));
     }
 
@@ -415,8 +420,10 @@ public final class VersionEdgesTest {
         Expect.Setup lost = VersionEdgesTest::sixWithTheGroundLost;
         EXPECT.refusedUnchanged("rebuild of a lost one into no file", Expect.INDEX, lost, x -> x.rebuild(0, 3));
         EXPECT.refusedUnchanged("rebuild of a broken one into no file", Expect.INDEX, lost, x -> x.rebuild(2, -1));
-        refusedForEach(new int[] {-1, 6, 20, MOST, LEAST}, "rebuild of", Expect.INDEX, (x, version) -> x.rebuild(version, 0));
-        refusedForEach(new int[] {-1, 3, 6, MOST, LEAST}, "rebuild into", Expect.INDEX, (x, file) -> x.rebuild(0, file));
+        refusedForEach(new int[] {-1, 6, 20, MOST, LEAST}, "rebuild of", Expect.INDEX,
+                (x, version) -> x.rebuild(version, 0));
+        refusedForEach(new int[] {-1, 3, 6, MOST, LEAST}, "rebuild into", Expect.INDEX,
+                (x, file) -> x.rebuild(0, file));
     }
 
     /** "one that is lost is broken there, for the reason LOST". */
@@ -538,6 +545,21 @@ public final class VersionEdgesTest {
         x.replace(0, 1);
         EXPECT.due("rebuild of the 20th when the ground is back", x.rebuild(19, 2), 120);
         EXPECT.due("same as the file", x.same(0, 2), true);
+    }
+
+    /** No answer hangs on which version was asked for or rebuilt just ahead. */
+    private static void eachQuestionAlone() {
+        RollSync x = sixWithTheMiddleLost();
+        EXPECT.due("brokenAt of a sound one", x.brokenAt(0), NONE);
+        EXPECT.due("reason of a broken one", x.reason(2), LOST);
+        EXPECT.due("reason of a sound one", x.reason(0), NONE);
+        EXPECT.due("brokenAfter of a broken one", x.brokenAfter(2), 1);
+        EXPECT.due("brokenAfter of a sound one", x.brokenAfter(0), NONE);
+        EXPECT.due("brokenAt of a broken one", x.brokenAt(2), 1);
+        EXPECT.due("rebuild of a sound one", x.rebuild(0, 2), 8);
+        EXPECT.due("brokenAfter of a lost one", x.brokenAfter(1), 0);
+        EXPECT.due("rebuild of a sound one", x.rebuild(3, 2), 0);
+        EXPECT.due("reason of a lost one", x.reason(1), LOST);
     }
 
     /** "Returns the number of bytes of a whole one, the cost of a delta, 0 if it is lost". */

@@ -8,6 +8,7 @@ public final class FileEdgesTest {
         sixFilesAndASeventh();
         filesStayThoughEmpty();
         noFileInANewObject();
+        objectsShareNothing();
         noSuchFile();
         addUpTo120();
         addBeyond120();
@@ -106,6 +107,41 @@ public final class FileEdgesTest {
         x.file();
         EXPECT.due("same(0, 0) behind file()", x.same(0, 0), true);
         EXPECT.refused("length(1) behind one file()", Expect.INDEX, x, y -> y.length(1));
+    }
+
+    /** An object that has something of everything, with other bytes, blocks and cuts for each kind. */
+    private static RollSync crowded(int kind) {
+        RollSync x = new RollSync();
+        for (int file = 0; file < 6; file++) {
+            x.add(x.file(), 10 * kind + file, kind, 4 + file);
+        }
+        for (int place = 0; place < 4; place++) {
+            x.sign(place, place, 1 + (place + kind) % 7, 9 * kind);
+            x.compare(place, place, 5 - place);
+            x.keep(place);
+            x.keepDelta(5, place, kind);
+        }
+        x.cuts(kind, 3 * kind, 5);
+        for (int paper = 0; paper < 7; paper++) {
+            x.store((paper + kind) % 6);
+        }
+        x.lose(kind);
+        return x;
+    }
+
+    /** "A synchroniser without files": objects share nothing, whichever is used ahead of the other. */
+    private static void objectsShareNothing() {
+        String state = State.of(new RollSync());
+        String later = Probe.of(new RollSync());
+        String[] states = {State.of(crowded(1)), State.of(crowded(2))};
+        String[] laters = {Probe.of(crowded(1)), Probe.of(crowded(2))};
+        RollSync[] both = {crowded(1), crowded(2)};
+        EXPECT.due("a new object beside two others", State.of(new RollSync()), state);
+        EXPECT.due("later calls on a new object beside two others", Probe.of(new RollSync()), later);
+        EXPECT.due("the first of both", State.of(both[0]), states[0]);
+        EXPECT.due("the second of both", State.of(both[1]), states[1]);
+        EXPECT.due("later calls on the first of both", Probe.of(both[0]), laters[0]);
+        EXPECT.due("later calls on the second of both", Probe.of(both[1]), laters[1]);
     }
 
     /** "if there is no such file": each file that a call names, just outside and far outside. */
